@@ -129,17 +129,18 @@ public final class LanguageTest {
         lengths(text);
     }
 
-    /** Methods of the class begin 4 deep, those of the classes inside 8 deep. */
+    /** Methods of the class begin 4 deep, those of the classes inside 8 deep; each ends at a brace as deep as its head. */
     private static void lengths(String text) {
         String[] lines = text.split("\n");
-        int begin = 0;
         for (int i = 0; i < lines.length; i++) {
-            boolean head = lines[i].matches("( {4}| {8})\\w[^=;]*\\) \\{") && !lines[i].matches(" +(if|for|while|switch)\\b.*");
-            begin = head ? i : begin;
-            if (lines[i].matches("( {4}| {8})\\}") && i - begin > 60 && !lines[begin].contains("class")) {
-                boolean endOfClass = i + 1 < lines.length && lines[i].equals("    }") && lines[i - 1].equals("        }");
-                if (!endOfClass) {
-                    Check.fail("the method of line " + (begin + 1) + " is long");
+            if (lines[i].matches("( {4}| {8})\\w[^=;]*\\) \\{") && !lines[i].matches(" +(if|for|while|switch)\\b.*")) {
+                String end = lines[i].replaceAll("\\S.*", "") + "}";
+                int last = i;
+                while (last < lines.length && !lines[last].equals(end)) {
+                    last++;
+                }
+                if (last - i > 60) {
+                    Check.fail("the method of line " + (i + 1) + " is long");
                 }
             }
         }

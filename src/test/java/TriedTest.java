@@ -142,6 +142,15 @@ public final class TriedTest {
         Check.due("one of nobody", nobody.nets(1, 1), Check.NONE);
         SparrowChange second = Check.of("t5 5;p1 9 0;p0 50 0;");
         Check.due("not the first", second.nets(59, 1), 2);
+        SparrowChange seven = Check.of("t5 5;" + "p0 5 0;".repeat(7));
+        Check.due("all seven", seven.nets(35, 4), 127);
+        Check.due("six of seven", seven.nets(34, 1), 63);
+        SparrowChange drawn = Check.of("t5 2;p2 0 0;p0 50 0;");
+        drawn.strew(0, 9);
+        drawn.net(1, true);
+        Check.due("a net can hinder: nothing comes to the miser", drawn.nets(1, 2), Check.NONE);
+        drawn.net(1, false);
+        Check.due("without it something does", drawn.nets(11, 2), 0);
     }
 
     private static void calm() {
