@@ -3,19 +3,24 @@ final class Check {
     static final int NONE = -1, UNKNOWN = -1000000001, OUTSIDE = -1000000002, NOT = -1000000003, FULL = -1000000004;
 
     private static int wrong = 0;
+    private static String sentence = "";
 
     private Check() { }
 
+    /** The document's words that the answers behind this stand for; told with a wrong one. */
+    static void says(String words) {
+        sentence = words + ": ";
+    }
+
     static void due(String call, int got, int want) {
         if (got != want) {
-            wrong++;
-            System.out.println(call + " answered " + got + ", due is " + want);
+            fail(call + " answered " + got + ", due is " + want);
         }
     }
 
     static void fail(String why) {
         wrong++;
-        System.out.println(why);
+        System.out.println(sentence + why);
     }
 
     static void feed(SparrowChange x, String text) {
