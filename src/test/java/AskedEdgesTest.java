@@ -4,7 +4,9 @@ public final class AskedEdgesTest {
     private static final String TWO = "t50 24;p0 20 5;p2 30 9;";
 
     public static void main(String[] args) {
+        newObject();
         allIsNew();
+        nothingOfOlderTexts();
         allStaysByAFault();
         whatOutside();
         toldWithoutPersons();
@@ -32,13 +34,55 @@ public final class AskedEdgesTest {
         x.keep(1);
         x.count(0, 5);
         x.pay(0, 1, 9);
-        x.strew(1, 40);
         x.net(0, true);
         x.hour(7);
+        x.strew(1, 40);
         x.watch(3);
         x.feel(1, 9, true);
         x.write(1, 4);
         return x;
+    }
+
+    private static void noParish(SparrowChange x) {
+        for (int what = 0; what <= 17; what++) {
+            Check.due("told " + what, x.told(what), what == 8 || what == 10 ? Check.NONE : 0);
+        }
+        Check.due("person 0", x.person(0, 0), Check.UNKNOWN);
+        Check.due("debt 0", x.debt(0, 0), Check.UNKNOWN);
+        Check.due("trace", x.trace(0), Check.NONE);
+    }
+
+    private static void newObject() {
+        Check.says("promise 1: no parish");
+        SparrowChange x = new SparrowChange();
+        noParish(x);
+        Check.due("fault", x.fault(), Check.NONE);
+        Check.due("reaches", x.reach(0), 51);
+        Check.due("judge", x.judge(), Check.NONE);
+        Check.due("all torn", x.tear(), 0);
+        Check.due("goBack", x.goBack(0), Check.NOT);
+        Check.due("seed", x.seed(0), 0);
+    }
+
+    private static void nothingOfOlderTexts() {
+        Check.says("promise 3: nothing of older texts is left, with faults or without");
+        String full = "t9 3;" + "p0 9 0;".repeat(7) + "d6 0 9;".repeat(9);
+        SparrowChange x = Check.of(full);
+        Check.feed(x, full + "p");
+        Check.due("a fault behind all that there can be", x.parish(), -13);
+        Check.feed(x, "t8 4;p0 1 1;p0 1 1;d0 1 1;");
+        Check.due("a small parish", x.parish(), 2);
+        Check.due("its debts", x.told(2), 1);
+        Check.due("D", x.told(0), 4);
+        Check.due("the first parish is gone, too", x.parish(), 0);
+        noParish(x);
+        Check.feed(x, "t8 4;");
+        Check.due("no persons", x.parish(), 0);
+        Check.due("the tree", x.told(5), 8);
+        Check.due("hats", x.told(6), 0);
+        Check.due("owed", x.told(12), 0);
+        Check.due("none again", x.parish(), 0);
+        noParish(x);
     }
 
     private static void allIsNew() {
@@ -61,6 +105,7 @@ public final class AskedEdgesTest {
             }
         }
         Check.due("hours", x.told(4), 0);
+        Check.due("crumbs", x.person(1, 3), 0);
         Check.due("trace", x.trace(1), Check.NONE);
         Check.due("reaches", x.reach(0), 51);
         Check.due("book", x.judge(), Check.NONE);
@@ -112,6 +157,8 @@ public final class AskedEdgesTest {
             Check.due("judge", x.judge(), same.judge());
             Check.due("reach", x.reach(1), same.reach(1));
             Check.due("hat", x.hat(1, 3), same.hat(1, 3));
+            Check.due("undo", x.undo(), same.undo());
+            Check.due("crumbs", x.person(1, 3), 0);
             Check.due("undo", x.undo(), same.undo());
             Check.due("hours", x.told(4), 0);
             Check.due("image 1", x.goBack(1), 1);
@@ -174,6 +221,10 @@ public final class AskedEdgesTest {
         Check.due("who, nothing watched", x.told(13), 127);
         x.net(3, false);
         Check.due("but the fourth", x.told(7), 127 - 8);
+        Check.says("promise 6: 4 1 a net, 0 none");
+        for (int p = 0; p < 7; p++) {
+            Check.due("net of " + p, x.person(p, 4), p == 3 ? 0 : 1);
+        }
     }
 
     private static void richest() {
@@ -185,6 +236,7 @@ public final class AskedEdgesTest {
         Check.due("all alike", Check.of("t5 5;" + "p0 99 0;".repeat(7)).told(10), 0);
         Check.due("two alike", Check.of("t5 5;p0 0 0;p0 1 0;p0 1 0;").told(10), 1);
         Check.due("the tree is no person", Check.of("t999 5;p0 0 0;p0 1 0;").told(10), 1);
+        Check.due("most is nought, and all are alike", Check.of("t5 5;p0 0 0;p0 0 0;").told(10), 0);
     }
 
     private static void rings() {
@@ -203,6 +255,10 @@ public final class AskedEdgesTest {
         SparrowChange y = Check.of(seven + "d0 6 2;d6 0 3;d0 6 1;");
         y.pay(0, 6, 2);
         Check.due("another debt of the same two", y.told(11), 65);
+        SparrowChange nine = Check.of(seven + "d6 0 1;" + "d0 1 1;".repeat(8));
+        Check.due("nine debts, no ring", nine.told(11), 0);
+        SparrowChange last = Check.of(seven + "d1 2 1;".repeat(8) + "d2 1 1;");
+        Check.due("the ninth makes it", last.told(11), 6);
     }
 
     private static void owedInAll() {
@@ -239,6 +295,10 @@ public final class AskedEdgesTest {
         x.pay(0, 1, 9);
         Check.due("less", x.person(0, 7), 96);
         Check.due("less", x.person(1, 8), 99);
+        SparrowChange nine = Check.of("t0 9;" + "p0 9 0;".repeat(7) + "d6 5 99;".repeat(9));
+        Check.due("nine debts", nine.person(6, 7), 891);
+        Check.due("nine debts", nine.person(5, 8), 891);
+        Check.due("no other one owes", nine.person(5, 7), 0);
     }
 
     private static void lossOfFew() {

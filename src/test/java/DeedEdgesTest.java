@@ -14,6 +14,7 @@ public final class DeedEdgesTest {
         netUnknown();
         hawkBounds();
         hawkReach();
+        sevenPersons();
         hourBounds();
         drawers();
         crumbsHalved();
@@ -176,6 +177,31 @@ public final class DeedEdgesTest {
             Check.due("hats", x.told(6), 28);
             Check.due("hours", x.told(4), 0);
         }
+    }
+
+    private static void sevenPersons() {
+        Check.says("section 2: of seven persons and nine debts");
+        String text = "t900 2;" + "p0 50 9;".repeat(6) + "p0 50 50;" + "d6 0 50;".repeat(9);
+        SparrowChange x = Check.of(text);
+        Check.due("hawk at 50", x.hawk(50, 0), 50);
+        Check.due("hawk everywhere", x.hawk(25, 25), 300);
+        x.undo();
+        x.undo();
+        Check.due("an hour", x.hour(1), 942);
+        Check.due("dusk", x.hour(1), 1250);
+        Check.due("no bird is in a hat", x.told(6), 0);
+        x.undo();
+        x.undo();
+        Check.due("strewn by the last", x.strew(6, 99), 99);
+        x.hour(1);
+        Check.due("the last draws", x.person(6, 1), 86);
+        Check.due("the last pays", x.pay(6, 0, 60), 390);
+        Check.due("the first debt", x.debt(0, 2), 0);
+        Check.due("the second debt", x.debt(1, 2), 40);
+        Check.due("the ninth debt", x.debt(8, 2), 50);
+        Check.due("counted out to the last", x.count(6, 900), 926);
+        Check.due("it pays all", x.pay(6, 0, 390), 0);
+        Check.due("the ninth debt", x.debt(8, 2), 0);
     }
 
     private static void hourBounds() {

@@ -245,6 +245,9 @@ public final class TriedEdgesTest {
         SparrowChange two = Check.of("t50 6;p0 0 0;p0 0 0;p0 0 0;d0 2 9;d1 2 9;");
         Check.due("two lack", two.toFloat(0), Check.NONE);
         Check.due("two lack", two.toFloat(1), Check.NONE);
+        SparrowChange bird = Check.of("t50 6;p0 0 0;p0 8 0;p0 0 0;d1 2 9;");
+        Check.due("another one lacks a single bird", bird.toFloat(0), Check.NONE);
+        Check.due("who lacks it", bird.toFloat(1), 1);
     }
 
     private static void floatNought() {
@@ -253,6 +256,13 @@ public final class TriedEdgesTest {
         x.pay(0, 1, 9);
         Check.due("all is paid", x.toFloat(0), 0);
         Check.due("all is paid", x.toFloat(1), 0);
+        SparrowChange rest = Check.of("t50 6;p0 8 0;p0 0 0;d0 1 9;");
+        rest.pay(0, 1, 8);
+        Check.due("all but one is paid", rest.toFloat(0), 1);
+        Check.due("all but one is paid", rest.settled(0), 0);
+        rest.count(0, 1);
+        Check.due("all but one is paid, and it is there", rest.toFloat(0), 0);
+        Check.due("all but one is paid, and it is there", rest.settled(0), 1);
     }
 
     private static void netsFewest() {
@@ -280,6 +290,9 @@ public final class TriedEdgesTest {
         Check.due("two", x.nets(50, 1), 6);
         Check.due("three", x.nets(51, 1), 14);
         Check.due("six", x.nets(54, 1), 126);
+        SparrowChange all = Check.of("t0 24;" + "p0 9 0;".repeat(7));
+        Check.due("six of seven", all.nets(62, 1), 63);
+        Check.due("seven of seven", all.nets(63, 1), 127);
     }
 
     private static void netsNone() {
